@@ -125,7 +125,7 @@ public final class LeftShoes {
         tape = new byte[MOST_BYTES];
         tale = new Tale();
         spare = new Tale();
-        scribe = new Scribe();
+        scribe = new Scribe(spare);
         lastPlace = NONE;
         int[] sums = new int[MOST_PRICE + 1];
         world = new World(tale, sums);
@@ -847,32 +847,29 @@ public final class LeftShoes {
                     return a - b;
                 case TIMES:
                     // A product that leaves the long would come back as a small one.
-                    return a != 0 && Math.abs(b) > MOST_VALUE / Math.abs(a) ? ERROR : a * b;
+                    long high = a < 0 ? -a : a;
+                    long wide = b < 0 ? -b : b;
+                    return high != 0 && wide > MOST_VALUE / high ? ERROR : a * b;
                 case OVER:
                     return b == 0 ? ERROR : a / b;
-                default:
-                    return holds(knot, a, b) ? 1 : 0;
-            }
-        }
-
-        private static boolean holds(int knot, long a, long b) {
-            switch (knot) {
                 case LESS:
-                    return a < b;
+                    return a < b ? 1 : 0;
                 case LESS_OR_SAME:
-                    return a <= b;
+                    return a <= b ? 1 : 0;
                 case SAME:
-                    return a == b;
+                    return a == b ? 1 : 0;
                 case UNLIKE:
-                    return a != b;
+                    return a != b ? 1 : 0;
                 case MORE_OR_SAME:
-                    return a >= b;
+                    return a >= b ? 1 : 0;
                 case MORE:
-                    return a > b;
+                    return a > b ? 1 : 0;
                 case W_AND:
-                    return a != 0 && b != 0;
+                    return a != 0 && b != 0 ? 1 : 0;
+                case W_OR:
+                    return a != 0 || b != 0 ? 1 : 0;
                 default:
-                    return a != 0 || b != 0;
+                    return ERROR;
             }
         }
     }
@@ -915,36 +912,34 @@ public final class LeftShoes {
         }
 
         void advance() {
-            while (at < length && (bytes[at] == 10 || bytes[at] == 32)) {
+            while (at < length && (signAt(at) == 10 || signAt(at) == 32)) {
                 at++;
             }
             place = at;
             value = 0;
+            int sign = signAt(at);
             if (at >= length) {
                 kind = END;
-            } else if (isLetter(at)) {
+            } else if (sign >= 'a' && sign <= 'z') {
                 readWord();
-            } else if (isDigit(at)) {
+            } else if (sign >= '0' && sign <= '9') {
                 readNumber();
             } else {
                 readSign();
             }
         }
 
-        private boolean isLetter(int i) {
-            return i < length && bytes[i] >= 'a' && bytes[i] <= 'z';
-        }
-
-        private boolean isDigit(int i) {
-            return i < length && bytes[i] >= '0' && bytes[i] <= '9';
+        // Behind the last byte stands a sign that belongs to no token.
+        private int signAt(int i) {
+            return i >= 0 && i < length && i < bytes.length ? bytes[i] : 0;
         }
 
         private void readWord() {
             int letters = 0;
             int packed = 0;
-            while (at < length && isLetter(at)) {
+            while (at < length && signAt(at) >= 'a' && signAt(at) <= 'z') {
                 if (letters < MOST_LETTERS) {
-                    packed = packed << LETTER_BITS | bytes[at] - 'a' + 1;
+                    packed = packed << LETTER_BITS | signAt(at) - 'a' + 1;
                 }
                 letters++;
                 at++;
@@ -964,62 +959,57 @@ public final class LeftShoes {
 
         private void readNumber() {
             kind = NUMBER;
-            while (at < length && isDigit(at)) {
-                value = Math.min(NUMBER_CAP, value * 10 + bytes[at] - '0');
+            while (at < length && signAt(at) >= '0' && signAt(at) <= '9') {
+                value = value * 10 + signAt(at) - '0';
+                value = value > NUMBER_CAP ? NUMBER_CAP : value;
                 at++;
             }
         }
 
         private void readSign() {
-            int sign = bytes[at];
-            at++;
-            if (sign == '<' && isNext('=')) {
-                kind = LESS_OR_SAME;
-                at++;
-            } else if (sign == '<' && isNext('>')) {
-                kind = UNLIKE;
-                at++;
-            } else if (sign == '>' && isNext('=')) {
-                kind = MORE_OR_SAME;
-                at++;
-            } else {
-                kind = kindOfSign(sign);
-            }
-        }
-
-        private boolean isNext(char sign) {
-            return at < length && bytes[at] == sign;
-        }
-
-        private static int kindOfSign(int sign) {
+            int sign = signAt(at);
+            int behind = signAt(at + 1);
+            boolean joined = behind == '=' && (sign == '<' || sign == '>') || behind == '>' && sign == '<';
+            at += joined ? 2 : 1;
             switch (sign) {
                 case ';':
-                    return SEMICOLON;
+                    kind = SEMICOLON;
+                    break;
                 case '(':
-                    return OPEN;
+                    kind = OPEN;
+                    break;
                 case ')':
-                    return CLOSE;
+                    kind = CLOSE;
+                    break;
                 case '<':
-                    return LESS;
+                    kind = !joined ? LESS : behind == '=' ? LESS_OR_SAME : UNLIKE;
+                    break;
                 case '=':
-                    return SAME;
+                    kind = SAME;
+                    break;
                 case '>':
-                    return MORE;
+                    kind = joined ? MORE_OR_SAME : MORE;
+                    break;
                 case '+':
-                    return PLUS;
+                    kind = PLUS;
+                    break;
                 case '-':
-                    return MINUS;
+                    kind = MINUS;
+                    break;
                 case '*':
-                    return TIMES;
+                    kind = TIMES;
+                    break;
                 case '/':
-                    return OVER;
+                    kind = OVER;
+                    break;
                 default:
-                    return NO_TOKEN;
+                    kind = NO_TOKEN;
+                    break;
             }
         }
     }
 
-    /** Writes a tale from tokens, or stops at the first fault: each fault lies at the token that stands in the reader. */
+    /** Writes a tale from tokens, or stops at the first fault: each fault lies at the token in the reader. */
     private static final class Scribe {
         private static final int OR_LEVEL = 0;
         private static final int AND_LEVEL = 1;
@@ -1033,7 +1023,11 @@ public final class LeftShoes {
         int faultPlace;
         private boolean seeded;
         private final Reader reader = new Reader();
-        private Tale tale = new Tale();
+        private Tale tale;
+
+        Scribe(Tale blank) {
+            tale = blank;
+        }
 
         boolean write(byte[] tape, int n, Tale blank) {
             tale = blank;
@@ -1606,7 +1600,7 @@ public final class LeftShoes {
             sums[0] = 0;
             int reach = 0;
             for (int shoe = 0; shoe < tale.shoes; shoe++) {
-                int worth = owner[shoe] == person ? worthOf(shoe) : 0;
+                int worth = owner[shoe] == person ? worthWhen(shoe, used[shoe], day) : 0;
                 if (worth < 1 || worth > price) {
                     continue;
                 }
@@ -1626,16 +1620,20 @@ public final class LeftShoes {
         }
 
         void passDay() {
-            if (walking) {
-                for (int foot = 0; foot < 2 * tale.persons; foot++) {
-                    int shoe = worn[foot];
-                    if (tale.hasShoe(shoe)) {
-                        useMore(shoe, wearWhen(shoe, used[shoe], day));
-                    }
+            for (int foot = 0; walking && foot < 2 * tale.persons; foot++) {
+                int shoe = worn[foot];
+                if (tale.hasShoe(shoe)) {
+                    useMore(shoe, wearWhen(shoe, used[shoe], day));
                 }
             }
-            if (owing) {
-                settleDebts();
+            for (int debt = 0; owing && debt < tale.debts; debt++) {
+                if (tale.due[debt] == day && settled[debt] == TO_COME) {
+                    int shoes = shoesFor(tale.debtor[debt], tale.owed[debt]);
+                    settled[debt] = shoes == NOT_SO ? REFUSED : PAID;
+                    if (shoes != NOT_SO) {
+                        handOver(shoes, tale.creditor[debt]);
+                    }
+                }
             }
             day++;
         }
@@ -1651,18 +1649,6 @@ public final class LeftShoes {
                 used[shoe] += more;
                 if (used[shoe] >= WORN_OUT) {
                     bury(shoe);
-                }
-            }
-        }
-
-        private void settleDebts() {
-            for (int debt = 0; debt < tale.debts; debt++) {
-                if (tale.due[debt] == day && settled[debt] == TO_COME) {
-                    int shoes = shoesFor(tale.debtor[debt], tale.owed[debt]);
-                    settled[debt] = shoes == NOT_SO ? REFUSED : PAID;
-                    if (shoes != NOT_SO) {
-                        handOver(shoes, tale.creditor[debt]);
-                    }
                 }
             }
         }

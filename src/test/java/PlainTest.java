@@ -1,12 +1,14 @@
 import java.nio.charset.StandardCharsets;
 import java.util.ArrayList;
+import java.util.HashSet;
 import java.util.List;
 import java.util.NoSuchElementException;
 import java.util.Random;
+import java.util.Set;
 
 /** Runs of calls by chance (always the same ones), held against PlainLand. */
 public final class PlainTest {
-    private static final int RUNS = Integer.getInteger("leftshoes.runs", 1500);
+    private static final int RUNS = Integer.getInteger("leftshoes.runs", 800);
     private static final int WRONG_SHOWN = 20;
     private static int wrong = 0;
     private static Random random;
@@ -26,11 +28,13 @@ public final class PlainTest {
         if (wrong != 0) System.exit(1);
     }
 
+    // A rough run tells texts that are mostly faulty; the others tell sound ones, and then much is called.
     private static void oneRun() {
-        int texts = random.nextInt(3) == 0 ? 6 : 2;
+        boolean rough = oneIn(4);
+        int texts = rough ? 8 : 2;
         for (int t = 0; t < texts; t++) {
-            if (!tell(aText())) return;
-            int calls = random.nextInt(texts == 6 ? 12 : 60);
+            if (!tell(rough ? spoil(new StringBuilder(aText(true))) : aText(false))) return;
+            int calls = rough ? upTo(10) : 100 + upTo(100);
             for (int i = 0; i < calls; i++) if (!call()) return;
         }
     }
@@ -47,56 +51,68 @@ public final class PlainTest {
 
     private static final String[] NAMES = {"a", "b", "ann", "zz", "bobbob", "left", "q", "day", "abcdefg", "c"};
     private static String pick(String... s) { return s[random.nextInt(s.length)]; }
-    private static String number(int least, int most) {
-        if (oneIn(150)) return "" + (most + 1);
-        if (oneIn(300) && least > 0) return "" + (least - 1);
+    private static String number(boolean rough, int least, int most) {
+        if (rough && oneIn(100)) return oneIn(2) && least > 0 ? "" + (least - 1) : oneIn(2) ? "99999999999999999999" : "" + (most + 1);
         return (oneIn(60) ? "000000000000" : "") + (least + upTo(most - least));
     }
 
-    private static String aText() {
+    private static String aText(boolean rough) {
         StringBuilder b = new StringBuilder();
-        int persons = oneIn(20) ? 6 : upTo(5);
+        int persons = rough ? upTo(6) : 1 + upTo(4);
         List<String> names = new ArrayList<>();
         for (int i = 0; i < persons; i++) {
-            String name = oneIn(30) ? pick(NAMES) : new String[] {"a", "b", "ann", "zz", "bobbob", "c"}[i];
+            String name = rough && oneIn(20) ? pick(NAMES) : new String[] {"a", "b", "ann", "zz", "bobbob", "c"}[i];
             names.add(name);
-            b.append("person ").append(name).append(' ').append(number(1, oneIn(2) ? 4 : 20)).append(' ').append(number(0, 99)).append(' ')
-                .append(number(0, oneIn(2) ? 5 : 99)).append(';');
+            b.append("person ").append(name).append(' ').append(number(rough, 1, oneIn(2) ? 4 : 20)).append(' ').append(number(rough, 0, 99)).append(' ')
+                .append(number(rough, 0, oneIn(2) ? 5 : 99)).append(';');
         }
-        int shoes = oneIn(25) ? 17 : upTo(16);
-        for (int i = 0; i < shoes; i++) {
-            b.append("shoe ").append(pick("left", "right")).append(' ').append(number(1, oneIn(2) ? 5 : 20)).append(' ').append(number(0, 49)).append(' ')
-                .append(pick("boot", "sandal", "felt")).append(' ').append(names.isEmpty() || oneIn(5) ? "bank" : pick(names.toArray(new String[0]))).append(';');
-            if (b.length() > 480) break;
+        int shoes = rough ? upTo(17) : oneIn(3) ? 16 : 2 + upTo(12);
+        String fewer = oneIn(4) ? pick("left", "right") : null;
+        for (int i = 0; i < shoes && b.length() < 440; i++) {
+            String side = fewer != null && !oneIn(5) ? fewer : pick("left", "right");
+            b.append("shoe ").append(side).append(' ').append(number(rough, 1, oneIn(2) ? 5 : 20)).append(' ').append(number(rough, 0, 49)).append(' ')
+                .append(pick("boot", "boot", "felt")).append(' ').append(names.isEmpty() || oneIn(5) ? "bank" : pick(names.toArray(new String[0]))).append(';');
         }
+        for (String name : names) if (oneIn(2)) b.append("claim ").append(name).append(' ').append(number(rough, 1, oneIn(2) ? 9 : 3)).append(';');
+        lines(b, names, rough);
+        for (String rule : new String[] {"worth", "wear", "pair"}) {
+            if (oneIn(2)) b.append("law ").append(rule).append(' ').append(law(rough, rule)).append(';');
+        }
+        return b.toString();
+    }
+
+    private static void lines(StringBuilder b, List<String> names, boolean rough) {
+        Set<String> told = new HashSet<>();
         int more = upTo(8);
-        for (int i = 0; i < more; i++) {
+        boolean trade = oneIn(3);
+        for (int i = 0; i < more && b.length() < 560; i++) {
             String one = names.isEmpty() ? pick(NAMES) : pick(names.toArray(new String[0]));
             String two = names.isEmpty() ? pick(NAMES) : pick(names.toArray(new String[0]));
-            switch (random.nextInt(6)) {
-                case 0: case 1:
-                    if (!one.equals(two) || oneIn(20)) b.append("debt ").append(one).append(' ').append(two).append(' ').append(number(1, oneIn(3) ? 999 : 40)).append(' ').append(number(0, oneIn(3) ? 99 : 4)).append(';');
-                    break;
-                case 2:
-                    if (names.size() > i || oneIn(30)) b.append("claim ").append(names.size() > i ? names.get(i) : one).append(' ').append(number(1, 9)).append(';');
-                    break;
-                case 3:
-                    b.append(oneIn(3) ? "seed " : "swap boot left 1 felt left ").append(number(1, 99)).append(';');
-                    break;
-                default:
-                    b.append("swap ").append(pick("boot", "sandal", "felt")).append(' ').append(pick("left", "right")).append(' ').append(number(1, 9)).append(' ')
-                        .append(pick("boot", "sandal", "felt")).append(' ').append(pick("left", "right")).append(' ').append(number(1, 9)).append(';');
+            if (!trade && (!one.equals(two) || rough)) {
+                b.append("debt ").append(one).append(' ').append(two).append(' ').append(number(rough, 1, oneIn(9) ? 999 : oneIn(2) ? 40 : 9)).append(' ')
+                    .append(number(rough, 0, oneIn(3) ? 20 : 4)).append(';');
+                continue;
             }
+            String from = pick("boot", "boot", "felt") + " " + pick("left", "right");
+            String to = pick("boot", "boot", "felt") + " " + pick("left", "right");
+            if (!trade || (from.equals(to) || !told.add(from + to)) && !rough) continue;
+            b.append("swap ").append(from).append(' ').append(number(rough, 1, 9)).append(' ').append(to).append(' ').append(number(rough, 1, 9)).append(';');
         }
-        for (String rule : new String[] {"worth", "wear", "pair"}) {
-            if (oneIn(2)) b.append("law ").append(rule).append(' ').append(expression(oneIn(4) ? 5 : 3)).append(';');
+        if (oneIn(5)) b.append("seed ").append(number(rough, 0, 99999)).append(';');
+    }
+
+    private static String law(boolean rough, String rule) {
+        switch (rough ? 0 : random.nextInt(4)) {
+            case 0: return expression(rough && oneIn(4) ? 5 : 3);
+            case 1: return rule.equals("worth") ? pick("size", "size*2-used/7", "1+size*3-used/5", "left*5+size+day", "size/(foot-3)")
+                : rule.equals("wear") ? pick("steps/9+sort", "1+(day>3)*9", "used/(size-2)", "foot+left", "not left") : pick("9-left", "size/2+day", "(left<3)*size", "used/left");
+            default: return expression(2);
         }
-        return spoil(b);
     }
 
     private static String expression(int depth) {
         if (depth == 0 || oneIn(4)) {
-            return oneIn(2) ? number(0, oneIn(3) ? 9999 : 12) : pick("size", "used", "left", "sort", "steps", "day", "foot");
+            return oneIn(2) ? number(false, 0, oneIn(3) ? 9999 : 12) : pick("size", "used", "left", "sort", "steps", "day", "foot");
         }
         String a = expression(depth - 1), b = expression(depth - 1);
         switch (random.nextInt(8)) {
@@ -110,8 +126,9 @@ public final class PlainTest {
     }
 
     private static String spoil(StringBuilder b) {
+        if (oneIn(2)) return b.toString();
         if (oneIn(12) && b.length() > 0) b.setLength(upTo(b.length() - 1));
-        if (oneIn(8) && b.length() > 0) {
+        if (oneIn(2) && b.length() > 0) {
             int at = upTo(b.length() - 1);
             switch (random.nextInt(5)) {
                 case 0: b.deleteCharAt(at); break;
