@@ -42,7 +42,12 @@ public final class MarketTest {
         Due.is("two are alike: the least bits", x.mint(2, 2), 0b100000000);
         x = Due.told("law worth (size=2)/(size-1);");
         Due.is("size 2 is worth 1", x.mint(2, 2), 0b10);
-        Due.is("size 1, an error, is worth 2 as without a law", x.mint(3, 2), 0b11);
+        Due.is("size 1, an error, is worth 2 as without a law", x.mint(2, 1), 0b11);
+        Due.is("and not 3", x.mint(3, 1), -2);
+        x = Due.told("law worth 64+size;");
+        Due.is("worth more than every price", x.mint(1, 1), -2);
+        x = Due.told("law worth 0;");
+        Due.is("worth nothing", x.mint(1, 5), -2);
     }
 
     private static int plainMint(int n, int k) {

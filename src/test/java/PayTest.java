@@ -12,6 +12,7 @@ public final class PayTest {
         debtsOfADay();
         undo();
         images();
+        fivePersons();
         Due.end();
     }
 
@@ -225,6 +226,52 @@ public final class PayTest {
         Due.is("as it was ahead of the twenty", x.person(0, 0), -1);
     }
 
+    // Of each person i a left shoe i and a right shoe i + 5, with steps that wear i + 1 a day.
+    private static void fivePersons() {
+        String land = "";
+        for (int i = 0; i < 5; i++) land += "person " + "abcde".charAt(i) + " " + (i + 1) + " " + 10 * (i + 1) + " " + i + ";";
+        for (int i = 0; i < 10; i++) land += "shoe " + (i < 5 ? "left" : "right") + " " + (i + 1) + " 0 boot " + "abcde".charAt(i % 5) + ";";
+        LeftShoes x = Due.told(land + "debt e d 20 1;debt d e 9 1;");
+        for (int i = 0; i < 10; i++) Due.is("on " + i, x.on(i), true);
+        for (int i = 0; i < 5; i++) {
+            Due.is("left of " + i, x.person(i, 0), i);
+            Due.is("right of " + i, x.person(i, 1), i + 5);
+        }
+        Due.is("off", x.off(9), true);
+        Due.is("off is off", x.person(4, 1), -1);
+        Due.is("undone", x.undo(), 10);
+        Due.is("on again", x.person(4, 1), 9);
+        x.keep();
+        Due.is("two days", x.days(2), 2);
+        for (int i = 0; i < 10; i++) Due.is("used of " + i, x.shoe(i, 2), 2 * (i % 5 + 1));
+        Due.is("refused", x.refused(), 0);
+        Due.is("7 and 8 make no 9", x.debt(1, 4), 2);
+        for (int i = 0; i < 5; i++) Due.is("walk of " + i + " by steps and fare", x.walk(i, 3, 1), plainWalk(i));
+        x.back();
+        for (int i = 0; i < 10; i++) Due.is("worn as in the image: " + i, x.shoe(i, 6), 1);
+        for (int i = 4; i >= 0; i--) Due.is("give away", x.give(i, (i + 1) % 5), true);
+        for (int i = 0; i < 5; i++) Due.is("bare left foot of " + i, x.person(i, 0), -1);
+        for (int i = 0; i < 5; i++) Due.is("undone", x.undo(), 4 - i);
+        for (int i = 0; i < 5; i++) Due.is("left again of " + i, x.person(i, 0), i);
+    }
+
+    // By trying all, those that walk earlier first: worth is the size (twice for left) less used by 5.
+    private static int plainWalk(int person) {
+        int best = 0;
+        int bestBits = -1;
+        for (int bits : new int[] {7, 3, 5, 1, 6, 2, 4, 0}) {
+            int used = 2 * (person + 1) + (person + 1) * Integer.bitCount(bits);
+            int less = Math.max(0, 2 * (person + 1) - 2 * (person + 1) / 5) - Math.max(0, 2 * (person + 1) - used / 5)
+                + Math.max(0, person + 6 - 2 * (person + 1) / 5) - Math.max(0, person + 6 - used / 5);
+            int sum = less + person * (3 - Integer.bitCount(bits));
+            if (bestBits < 0 || sum < best) {
+                best = sum;
+                bestBits = bits;
+            }
+        }
+        return bestBits;
+    }
+
     private static void images() {
         LeftShoes x = Due.told("person a 8 50 3;person b 9 0 5;shoe left 5 4 boot a;shoe right 3 0 boot b;debt a b 9 1;debt a b 8 3;");
         Due.is("none", x.back(), -1);
@@ -257,6 +304,20 @@ public final class PayTest {
         x.days(4);
         Due.is("back there", x.back(), 3);
         Due.is("paid there", x.debt(0, 4), 1);
+        x = Due.told("person a 1 0 0;person b 1 0 0;shoe left 5 0 boot a;" + "debt a b 99 2;".repeat(7) + "debt a b 10 1;");
+        x.keep();
+        x.days(2);
+        Due.is("the eighth debt is paid", x.debt(7, 4), 1);
+        x.back();
+        Due.is("the eighth debt is to come", x.debt(7, 4), 0);
+        x.days(2);
+        x.keep();
+        x.days(2);
+        x.back();
+        Due.is("the eighth debt is paid in the image", x.debt(7, 4), 1);
+        Due.is("the others are to come in it", x.debt(6, 4), 0);
+        Due.tell(x, "person a 1 0 0;person b 1 0 0;" + "debt a b 99 2;".repeat(8));
+        for (int i = 0; i < 8; i++) Due.is("to come by a new text: " + i, x.debt(i, 4), 0);
         Due.is("to come there", x.debt(1, 4), 0);
     }
 }

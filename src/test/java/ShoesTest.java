@@ -159,6 +159,11 @@ public final class ShoesTest {
         value("not 1=2", 1);
         value("not 0+1", 0);
         value("5 and 7", 1);
+        value("1 and 1", 1);
+        value("1 and 0", 0);
+        value("0 and 1", 0);
+        value("0 or 1", 1);
+        value("1 or 0", 1);
         value("5 and 0", 0);
         value("0 or 9", 1);
         value("0 or 0", 0);
@@ -167,6 +172,10 @@ public final class ShoesTest {
         value("not 1 or 1", 1);
         value("not (1 or 1)", 0);
         value("not 0 and 0", 0);
+        String deep = "0 or 1 and 1<2+1*(".repeat(6);
+        value(deep + "5-2" + ")".repeat(6), 1);
+        value("1-(".repeat(8) + "1" + ")".repeat(8), 1);
+        value("2*(1+".repeat(8) + "3" + ")".repeat(8), 3 * 256 + 510);
         value("1/0", error);
         value("1 or 1/0", error);
         value("0 and 1/0", error);

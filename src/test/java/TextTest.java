@@ -91,6 +91,9 @@ public final class TextTest {
         Due.fault("\u00ff", 1, 0);
         Due.fault("shoe boot 1 1 boot bank;", 1, 5);
         Due.fault("shoe left 1 1 left bank;", 1, 14);
+        Due.fault("shoe left 1 1 bank bank;", 1, 14);
+        Due.fault("shoe left 1 1 right bank;", 1, 14);
+        Due.fault("shoe law 1 1 boot bank;", 1, 5);
         Due.fault("shoe left 1 1 boot boot;", 1, 19);
         Due.fault("shoe left 1 1 boot abcdefg;", 1, 19);
         Due.fault("shoe left 1 1 boot 1;", 1, 19);
@@ -101,6 +104,9 @@ public final class TextTest {
         Due.fault("seed x;", 1, 5);
         Due.fault("seed;", 1, 4);
         Due.fault("law size 1;", 1, 4);
+        Due.fault("law bank 1;", 1, 4);
+        Due.fault("law or 1;", 1, 4);
+        Due.fault("law worth not;", 1, 13);
         Due.fault("law", 1, 3);
     }
 
