@@ -348,6 +348,8 @@ public final class EdgeLandTest {
         value("(4096*4096*512)*(4096*4096*512)", ERROR);
         value("(4096*4096*4096)*(4096*16)*(4096*4096*4096)", ERROR);
         value("(0-4096*4096*256)*(4096*4096*256)", ERROR);
+        value("(4096*4096*256)*(0-4096*4096*256)", ERROR);
+        value("(0-4096*4096*256)*(0-4096*4096*256)", ERROR);
         value(MOST + "*" + MOST, ERROR);
     }
 
@@ -1159,6 +1161,19 @@ public final class EdgeLandTest {
         Due.is("no day went by", x.count(5), 0);
         x.days(3);
         Due.is("as it came", x.count(8), 148 + 44 + 10);
+        // Worth is by whose foot it is: it tells whether the debt was paid, and nothing but what is tried is otherwise.
+        x = Due.told("person a 1 10 0;person b 20 20 0;shoe left 9 0 boot a;law worth 100*(foot=20)+50-used+size;debt a b 57 1;");
+        x.on(0);
+        Due.is("worn twice, paid", x.tried(2, 1, 2), 100 + 50 - 2 + 9);
+        Due.is("nobody walks: 59 is not 57, not paid", x.tried(0, 0, 2), 59);
+        x = Due.told("person a 1 10 0;person b 20 20 0;shoe left 9 0 boot a;law worth 100*(foot=20)+50-used+size;debt a b 59 1;");
+        x.on(0);
+        Due.is("worn twice: 57 is not 59, not paid", x.tried(2, 1, 2), 57);
+        Due.is("nobody walks, but debts are paid", x.tried(0, 0, 2), 159);
+        Due.is("no debts, but it is worn", x.tried(1, 0, 2), 57);
+        Due.is("a is barefoot, but debts are paid", x.tried(2, 0, 2), 159);
+        Due.is("the shoe is in the grave: nothing is paid", x.tried(3, 0, 2), 0);
+        Due.is("steps are as told, though nobody walks", Due.told("person a 1 10 0;shoe left 9 0 boot a;law worth steps;").tried(0, 0, 1), 10);
         x = Due.told("shoe right 1 0 boot bank;" + "shoe left 1 0 boot bank;".repeat(14) + "shoe right 1 0 boot bank;law worth 2*left;");
         Due.is("the first and the last are right ones", x.count(8), 28);
         Due.is("left ones then", x.tried(4, 0, 0), 32);
