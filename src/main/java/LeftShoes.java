@@ -904,6 +904,7 @@ public final class LeftShoes {
             words[WORDS - 1] <<= LETTER_BITS * (MOST_LETTERS - letters);
         }
 
+        // From here on the length is at most that of the bytes, so a place below it is one of theirs.
         void begin(byte[] tape, int n) {
             bytes = tape;
             length = Math.max(0, Math.min(n, tape.length));
@@ -912,34 +913,28 @@ public final class LeftShoes {
         }
 
         void advance() {
-            while (at < length && (signAt(at) == 10 || signAt(at) == 32)) {
+            while (at < length && (bytes[at] == 10 || bytes[at] == 32)) {
                 at++;
             }
             place = at;
             value = 0;
-            int sign = signAt(at);
             if (at >= length) {
                 kind = END;
-            } else if (sign >= 'a' && sign <= 'z') {
+            } else if (bytes[at] >= 'a' && bytes[at] <= 'z') {
                 readWord();
-            } else if (sign >= '0' && sign <= '9') {
+            } else if (bytes[at] >= '0' && bytes[at] <= '9') {
                 readNumber();
             } else {
-                readSign();
+                readSign(bytes[at], at + 1 < length ? bytes[at + 1] : 0);
             }
-        }
-
-        // Behind the last byte stands a sign that belongs to no token.
-        private int signAt(int i) {
-            return i >= 0 && i < length && i < bytes.length ? bytes[i] : 0;
         }
 
         private void readWord() {
             int letters = 0;
             int packed = 0;
-            while (at < length && signAt(at) >= 'a' && signAt(at) <= 'z') {
+            while (at < length && bytes[at] >= 'a' && bytes[at] <= 'z') {
                 if (letters < MOST_LETTERS) {
-                    packed = packed << LETTER_BITS | signAt(at) - 'a' + 1;
+                    packed = packed << LETTER_BITS | bytes[at] - 'a' + 1;
                 }
                 letters++;
                 at++;
@@ -959,16 +954,14 @@ public final class LeftShoes {
 
         private void readNumber() {
             kind = NUMBER;
-            while (at < length && signAt(at) >= '0' && signAt(at) <= '9') {
-                value = value * 10 + signAt(at) - '0';
+            while (at < length && bytes[at] >= '0' && bytes[at] <= '9') {
+                value = value * 10 + bytes[at] - '0';
                 value = value > NUMBER_CAP ? NUMBER_CAP : value;
                 at++;
             }
         }
 
-        private void readSign() {
-            int sign = signAt(at);
-            int behind = signAt(at + 1);
+        private void readSign(int sign, int behind) {
             boolean joined = behind == '=' && (sign == '<' || sign == '>') || behind == '>' && sign == '<';
             at += joined ? 2 : 1;
             switch (sign) {
